@@ -50,7 +50,8 @@ public final class PaidByCoast {
     }
 
     public int coast() {
-        int answer = readLetters();
+        int wrong = letters.wrongLetter();
+        int answer = wrong < 0 ? readStatements() : LETTER_FAULT - wrong;
         letters.size = 0;
         return answer;
     }
@@ -424,11 +425,7 @@ public final class PaidByCoast {
 
     // ---- letters
 
-    private int readLetters() {
-        int wrong = letters.wrongLetter();
-        if (wrong >= 0) {
-            return LETTER_FAULT - wrong;
-        }
+    private int readStatements() {
         // Each statement must fit behind those ahead of it, and a fault must leave the coast as it is.
         draft.become(now);
         int statements = 0;
@@ -800,25 +797,20 @@ public final class PaidByCoast {
             if (stretchCount < 0 || stretchCount >= stretches.length || yards + length > MAX_YARDS) {
                 return false;
             }
-            Shore stretch = newStretch(kind, figure, yards + 1, length);
-            if (stretch == null) {
-                return false;
+            Shore stretch;
+            int first = yards + 1;
+            switch (kind) {
+                case 0: stretch = new Shore(figure, first, length); break;
+                case 1: stretch = new Sand(figure, first, length); break;
+                case 2: stretch = new River(figure, first, length); break;
+                case 3: stretch = new Cliff(figure, first, length); break;
+                case 4: stretch = new Marsh(figure, first, length); break;
+                case 5: stretch = new Wall(figure, first, length); break;
+                default: return false;
             }
             stretches[stretchCount] = stretch;
             stretchCount++;
             return true;
-        }
-
-        private static Shore newStretch(int kind, int figure, int first, int length) {
-            switch (kind) {
-                case 0: return new Shore(figure, first, length);
-                case 1: return new Sand(figure, first, length);
-                case 2: return new River(figure, first, length);
-                case 3: return new Cliff(figure, first, length);
-                case 4: return new Marsh(figure, first, length);
-                case 5: return new Wall(figure, first, length);
-                default: return null;
-            }
         }
 
         void appendYard(int way) {
@@ -1029,26 +1021,22 @@ public final class PaidByCoast {
             return -1;
         }
 
+        /** Whether the statement that begins there has come to the coast; what it says may not fit. */
         boolean tell(Coast coast, int start) {
             switch (letterAt(start)) {
-                case 'c': return tellStretch(coast, start);
-                case 'r': return coast.rocks.append(pairAt(start + 1), pairAt(start + 3),
-                        digitAt(start + 5), digitAt(start + 6));
+                case 'c':
+                    int ways = waysFrom(start + 3);
+                    boolean fits = coast.appendStretch(digitAt(start + 1), digitAt(start + 2), ways);
+                    for (int i = 0; fits && i < ways; i++) {
+                        coast.appendYard(letterAt(start + 3 + i));
+                    }
+                    return fits;
+                case 'r':
+                    return coast.rocks.append(pairAt(start + 1), pairAt(start + 3), digitAt(start + 5), digitAt(start + 6));
                 default:
                     coast.tide = digitAt(start + 1);
                     return true;
             }
-        }
-
-        private boolean tellStretch(Coast coast, int start) {
-            int ways = waysFrom(start + 3);
-            if (!coast.appendStretch(digitAt(start + 1), digitAt(start + 2), ways)) {
-                return false;
-            }
-            for (int i = 0; i < ways; i++) {
-                coast.appendYard(letterAt(start + 3 + i));
-            }
-            return true;
         }
     }
 }

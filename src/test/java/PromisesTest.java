@@ -5,6 +5,7 @@ public final class PromisesTest {
     // Places: shore 1-3, sand 4-5, river 6-7, cliff 8-9, marsh 10-11, wall 12-13.
     private static final String ALL_KINDS = "c00eee;c15nn;c20ee;c32ss;c46ee;c53nn;";
     private static final String STRAIGHT = "c00eeeeeeeee;";
+    private static final String LONGEST = "c00nnnnnnnnn;".repeat(5) + "c00nnn;";
     private static final String THREE_ROCKS = "r030425;r100049;r000766;";
     private static final Due DUE = new Due("PromisesTest");
 
@@ -153,6 +154,7 @@ public final class PromisesTest {
         DUE.is("the last tide", x.count(2), 3);
         DUE.is("80 letters", tell(x, "r990000;r009909;c00nnn;" + "t1;".repeat(19)), 22);
         DUE.is("rock at 99", x.rock(1, 0), 99);
+        DUE.is("an end of a text where the last one had letters", tell(x, "c00n"), -1004);
     }
 
     private static void fault(String text, int due) {
@@ -210,10 +212,10 @@ public final class PromisesTest {
         fault("t5;c00n;r000032;t1;", -2008);
         fault("r000010;", -2000);
         fault("c00n;c00n;c00n;c00n;c00n;c00n;c00n;c00n;c00n;", -2040);
-        fault("c00nnnnnnnnn;c00nnnnnnnnn;c00nnnnnnnnn;c00nnnnnnnnn;c00nnnnnnnnn;c00nnn;c00n;", -2072);
-        fault("c00nnnnnnnnn;c00nnnnnnnnn;c00nnnnnnnnn;c00nnnnnnnnn;c00nnnnnnnnn;c00nnnn;", -2065);
+        fault(LONGEST + "c00n;", -2072);
+        fault("c00nnnnnnnnn;".repeat(5) + "c00nnnn;", -2065);
         fault("r000000;r000000;r000000;r000000;r000000;r000000;r000000;", -2048);
-        PaidByCoast x = of("c00nnnnnnnnn;c00nnnnnnnnn;c00nnnnnnnnn;c00nnnnnnnnn;c00nnnnnnnnn;c00nnn;");
+        PaidByCoast x = of(LONGEST);
         DUE.is("48 yards", x.count(1), 48);
         DUE.is("a 49th", tell(x, "c00n;"), -2000);
         DUE.is("yards then", x.count(1), 48);
@@ -345,7 +347,7 @@ public final class PromisesTest {
         refused(x, "walk(10, 0, 0)", -6, o -> o.walk(10, 0, 0));
         refused(x, "walk(1, 10, 0)", -6, o -> o.walk(1, 10, 0));
         refused(x, "walk(9, MAX, 4)", -6, o -> o.walk(9, MAX, 4));
-        DUE.is("48 steps", of("c00nnnnnnnnn;c00nnnnnnnnn;c00nnnnnnnnn;c00nnnnnnnnn;c00nnnnnnnnn;c00nnn;").walk(1, 0, 3), 48);
+        DUE.is("48 steps", of(LONGEST).walk(1, 0, 3), 48);
     }
 
     private static void place() {
@@ -356,6 +358,7 @@ public final class PromisesTest {
             DUE.is("place(2, 0, " + i + ")", x.place(2, 0, i), due[i]);
         }
         DUE.is("place(2, 0, MAX)", x.place(2, 0, MAX), -9);
+        DUE.is("the last of 48", of(LONGEST).place(1, 0, 48), 48);
         DUE.is("place(9, 7, 0)", x.place(9, 7, 0), 8);
         DUE.is("place(1, 9, 0) of nothing", new PaidByCoast().place(1, 9, 0), -9);
         refused(x, "place(1, 0, -1)", -4, o -> o.place(1, 0, -1));
@@ -404,6 +407,8 @@ public final class PromisesTest {
         DUE.is("span(1) of 18 yards", x.span(1), 9);
         // From 0 to 4: 14, from 5 on: 7.
         DUE.is("span(7) of 18 yards", x.span(7), 7);
+        // One to the west, then nine to the east: the rod 9 has a step from 1 alone.
+        DUE.is("most behind 0", of("c00w;c00eeeeeeeee;").span(9), 9);
         refused(x, "span(0)", -4, o -> o.span(0));
         refused(x, "span(10)", -6, o -> o.span(10));
         DUE.is("span(5) of nothing", new PaidByCoast().span(5), 0);
@@ -417,6 +422,7 @@ public final class PromisesTest {
         // Of 3 yards: 3, 2, 3, 0 ..
         DUE.is("finer(6)", x.finer(6), 1);
         DUE.is("finer(9)", x.finer(9), 0);
+        DUE.is("the rod 2 more than 1", of("c20e;c00e;").finer(0), 1);
         refused(x, "finer(-1)", -4, o -> o.finer(-1));
         refused(x, "finer(10)", -6, o -> o.finer(10));
         DUE.is("finer(9) of nothing", new PaidByCoast().finer(9), 0);
@@ -527,6 +533,7 @@ public final class PromisesTest {
         // On the border of a square of 9, told crosswise: once round it.
         x = of("r090900;r000900;r090000;r000500;r050900;r090500;");
         DUE.is("six", x.boat(), 36);
+        DUE.is("six that are no islands", of("r990599;".repeat(6)).boat(), 0);
         DUE.is("a rock at home", of("r000000;").boat(), 0);
         DUE.is("two at one place", of("r040300;r040300;").boat(), 14);
         DUE.is("none", new PaidByCoast().boat(), 0);
@@ -568,6 +575,7 @@ public final class PromisesTest {
         DUE.is("copy(6, 9)", x.copy(6, 9), 0);
         // Places on shore 0, 1, 4, 5: each second is 0 and 4.
         DUE.is("those on shore alone", of("c00e;c20ee;c00ee;").copy(2, 4), 4);
+        DUE.is("up to the last of 48", of(LONGEST).copy(8, 8), 48);
         refused(x, "copy(0, 10)", -4, o -> o.copy(0, 10));
         refused(x, "copy(10, 0)", -4, o -> o.copy(10, 0));
         refused(x, "copy(10, 1)", -6, o -> o.copy(10, 1));
@@ -582,6 +590,8 @@ public final class PromisesTest {
         for (int rod = 1; rod <= 9; rod++) {
             DUE.is("sure(" + rod + ")", x.sure(rod), due[rod - 1]);
         }
+        // The last place is the point of the one before it on shore: not even the rod 1 stops there.
+        DUE.is("a place that no walk reaches", of("c00e;c20e;c00w;").sure(1), 2);
         refused(x, "sure(0)", -4, o -> o.sure(0));
         refused(x, "sure(10)", -6, o -> o.sure(10));
     }
