@@ -154,7 +154,8 @@ public final class PromisesTest {
         DUE.is("the last tide", x.count(2), 3);
         DUE.is("80 letters", tell(x, "r990000;r009909;c00nnn;" + "t1;".repeat(19)), 22);
         DUE.is("rock at 99", x.rock(1, 0), 99);
-        DUE.is("an end of a text where the last one had letters", tell(x, "c00n"), -1004);
+        DUE.is("a short text", tell(x, "c00nn;"), 1);
+        DUE.is("an end where that text went on", tell(x, "c00n"), -1004);
     }
 
     private static void fault(String text, int due) {
