@@ -1020,6 +1020,8 @@ public final class EdgesTest {
         due("boat", 2);
         due("tide 2", 1);
         due("boat", 0);
+        on("r990599;".repeat(6));
+        due("boat", 0);
         on("r000000;");
         due("boat", 0);
         on("r010000;");
